@@ -11,7 +11,7 @@ public final class SoupTickets {
     private static final int POOL_WEEK = 3;
     private static final int WARDS = 6;
     private static final int PLACES = 100;
-    private static final int DIGIT = 9;
+    private static final int GREATEST_DIGIT = 9;
 
     private static final int MOST_SUBSCRIBERS = 20;
     private static final int MOST_HOUSES = 30;
@@ -367,7 +367,7 @@ public final class SoupTickets {
     }
 
     private static boolean isDigit(int n) {
-        return n >= 0 && n <= DIGIT;
+        return n >= 0 && n <= GREATEST_DIGIT;
     }
 
     private Subscriber subscriberAt(int number) {

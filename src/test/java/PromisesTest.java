@@ -72,6 +72,7 @@ public final class PromisesTest {
         due("subscriber 20", x.subscriber(), NONE);
         due("count(1)", x.count(1), 20);
         due("the last one gives", x.give(19, 10), 1);
+        due("there is none behind the last", x.give(20, 10), NONE);
     }
 
     private static void promise3() {
@@ -101,6 +102,8 @@ public final class PromisesTest {
         due("give up to 401", x.give(0, 1), NONE);
         due("coins after a refusal", x.gave(0, 0), 3989);
         due("all cards", x.count(3), 400);
+        due("the last card", x.card(399, 0), 0);
+        due("none behind it", x.card(400, 0), NONE);
         due("give 9 at 400 cards", x.give(1, 9), 0);
         due("give 1 at 400 cards", x.give(1, 1), NONE);
         due("coins of 1", x.gave(1, 0), 29);
@@ -127,6 +130,9 @@ public final class PromisesTest {
             due("house " + i, x.house(i % 6, i, 10 + i), i);
         }
         due("house 30", x.house(0, 0, 10), NONE);
+        due("the last house", x.told(29, 0), 5);
+        due("none behind it", x.told(30, 0), NONE);
+        due("houses 1, 5, 11, 17, 23 and 29 of ward 5", x.forecast(5), 18 + (1 + 5) + (2 + 1) + (2 + 7) + (3 + 3) + (3 + 9));
         due("count(2)", x.count(2), 30);
     }
 
@@ -678,7 +684,9 @@ public final class PromisesTest {
         x.look(0, 0);
         due("a look that holds", x.visits(0), NONE);
         due("the other", x.visits(1), 2);
-        x.go(10);
+        x.go(9);
+        due("it holds 10 weeks by the usual rule", x.visits(0), NONE);
+        x.go(1);
         due("it holds no more", x.visits(0), 3);
         mostAreVisited();
         sixAtMost();
@@ -780,6 +788,7 @@ public final class PromisesTest {
             due("entry " + i, x.entry(i % 6, i), i);
         }
         due("entry 60", x.entry(0, 0), NONE);
+        due("none behind the last", x.joined(60), NONE);
         due("count(9)", x.count(9), 60);
     }
 
