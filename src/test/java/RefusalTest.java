@@ -180,7 +180,7 @@ public final class RefusalTest extends Checks {
 
     /** Ways in which things can go on; each is tried by itself. */
     private static List<List<Later>> futures() {
-        return List.of(ballots(), coins(), newcomers(), meals(), weeks());
+        return List.of(ballots(), closing(), closeBallot(), coins(), newcomers(), meals(), weeks());
     }
 
     private static List<Later> ballots() {
@@ -196,6 +196,24 @@ public final class RefusalTest extends Checks {
             all.add(new Later("due in the next week", x -> x.due(0)));
             all.add(new Later("propose", x -> asInt(x.propose(10, 410010))));
         }
+        return all;
+    }
+
+    private static List<Later> closing() {
+        List<Later> all = new ArrayList<>();
+        all.add(new Later("close at once", Town::close));
+        all.add(new Later("rules", x -> x.count(8)));
+        all.add(new Later("close again", Town::close));
+        return all;
+    }
+
+    /** 12 coins against the 9 of subscriber 1, so that a vote that weighed twice would be seen. */
+    private static List<Later> closeBallot() {
+        List<Later> all = new ArrayList<>();
+        all.add(new Later("subscriber", Town::subscriber));
+        all.add(new Later("12 coins", x -> x.give(GIVERS, 12)));
+        all.add(new Later("against it", x -> asInt(x.vote(GIVERS, false))));
+        all.add(new Later("close", Town::close));
         return all;
     }
 

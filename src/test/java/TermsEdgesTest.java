@@ -1115,6 +1115,13 @@ public final class TermsEdgesTest extends Checks {
         due("the nearest for the first alone would be worse", trap.visits(0), 1);
         due("the second", trap.visits(1), 0);
         due("20 and 20, not 10 and 50", trap.far(0), 40);
+        Town apart = new Town().home(0, 50, 1).home(0, 60, 1).home(0, 99, 1);
+        apart.visitor(0, 60, 1);
+        apart.visitor(0, 50, 1);
+        due("the way to one that stays unvisited isn't in it", apart.far(0), 0);
+        due("50", apart.visits(0), 1);
+        due("60", apart.visits(1), 0);
+        due("99", apart.visits(2), NONE);
         lessByOne();
         Town both = new Town().home(0, 0, 1).home(0, 99, 1);
         both.visitor(0, 99, 1);
@@ -1132,8 +1139,9 @@ public final class TermsEdgesTest extends Checks {
         Town three = new Town().home(0, 60, 1).home(0, 40, 1).home(0, 59, 1);
         three.visitor(0, 50, 2);
         due("10 and 10, or 10 and 9", three.far(0), 19);
-        due("the second is visited", three.visits(0), 0);
-        due("the third too", three.visits(2), 0);
+        due("the first of like ones", three.visits(0), 0);
+        due("not the second", three.visits(1), NONE);
+        due("the third, which is nearer", three.visits(2), 0);
         Town all = new Town().home(0, 50, 1).home(0, 60, 1);
         all.visitor(0, 60, 8);
         all.visitor(0, 41, 8);
