@@ -9,8 +9,10 @@ import java.util.ArrayList;
 import java.util.List;
 import java.util.Set;
 import java.util.TreeSet;
+import java.util.regex.Matcher;
+import java.util.regex.Pattern;
 
-/** The public face of the document, and those rules of LANGUAGE.md that can be seen from outside. */
+/** The public face of the document, and those rules of LANGUAGE.md that can be seen in classes and in words. */
 public final class FaceTest {
     private static final String[] FACE = {
         "int subscriber()", "int give(int, int)", "int house(int, int, int)", "boolean look(int, int)",
@@ -23,7 +25,13 @@ public final class FaceTest {
     private static final String[] RULED_OUT = {
         "\\bthrow\\b", "\\btry\\b", "\\bcatch\\b", "\\bsynchronized\\b", "\\bassert\\b", "\\bimport\\b",
         "\\bpackage\\b", "->", "::", "\\brecord\\b", "\\bThread\\b", "\\bException\\b",
+        "while \\(true\\)", "for \\(;;\\)", "static \\{", "\\w\\[\\]\\[\\]",
     };
+    private static final Set<String> LIBRARY = Set.of("Math.max", "Math.min", "Math.abs", "System.arraycopy");
+    private static final Pattern NAME = Pattern.compile("\\b([A-Z]\\w*)\\b(?:\\.(\\w+))?");
+    private static final Pattern CONSTANT = Pattern.compile("[A-Z][A-Z_]*");
+    private static final Pattern METHOD = Pattern.compile("( +)(?:\\w+ )*[\\w\\[\\]]+\\(.*\\) \\{");
+    private static final int MOST_LINES = 60;
     private static int wrong = 0;
 
     private static void check(boolean holds, String what) {
@@ -112,5 +120,38 @@ public final class FaceTest {
                 "the program is without " + pattern);
         }
         check(source.chars().allMatch(c -> c < 128), "the program is written in plain characters");
+        checkNames(code);
+        checkLengths(source.split("\n"));
+    }
+
+    /** Names of classes are the program's own or the library's that is used: what else comes is to be looked at. */
+    private static void checkNames(String code) {
+        Set<String> own = new TreeSet<>(List.of("SoupTickets"));
+        for (Class<?> one : SoupTickets.class.getDeclaredClasses()) {
+            own.add(one.getSimpleName());
+        }
+        Matcher name = NAME.matcher(code);
+        while (name.find()) {
+            String first = name.group(1);
+            boolean known = own.contains(first) || CONSTANT.matcher(first).matches();
+            check(known || LIBRARY.contains(first + "." + name.group(2)), name.group() + " is one that may be used");
+        }
+    }
+
+    private static void checkLengths(String[] lines) {
+        int seen = 0;
+        for (int i = 0; i < lines.length; i++) {
+            Matcher head = METHOD.matcher(lines[i]);
+            if (head.matches() && !lines[i].matches(" +(if|for|while|switch|\\} else if) .*")) {
+                String end = head.group(1) + "}";
+                int length = 1;
+                while (i + length < lines.length && !lines[i + length].equals(end)) {
+                    length++;
+                }
+                seen++;
+                check(length < MOST_LINES, lines[i].trim() + " has less than sixty lines");
+            }
+        }
+        check(seen > FACE.length, "the methods of the program were found");
     }
 }
